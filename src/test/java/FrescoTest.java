@@ -28,7 +28,10 @@ public final class FrescoTest {
             check.due("window at first", 0, x.window(pigment, pigment % 4));
         }
         for (int pigment = 0; pigment < 10; pigment++) {
-            check.due("window then", pigment % 4, x.window(pigment, 0));
+            check.due("window then", pigment % 4, x.window(pigment, 3 - pigment % 4));
+        }
+        for (int pigment = 0; pigment < 10; pigment++) {
+            check.due("window at last", 3 - pigment % 4, x.window(pigment, 0));
         }
         check.fails("window(10, 4)", INDEX, () -> x.window(10, 4));
         check.fails("window(-1, 0)", INDEX, () -> x.window(-1, 0));
@@ -80,6 +83,8 @@ public final class FrescoTest {
         check.fails("patch 1, secco", INDEX, () -> x.paint(1, 0, 1L, true));
         check.fails("pigment -1", INDEX, () -> x.paint(0, -1, 1L, false));
         check.fails("pigment 10, secco", INDEX, () -> x.paint(0, 10, 1L, true));
+        check.due("pigment 0", 1, x.paint(0, 0, 1L, false));
+        check.due("pigment 0, told", 0, x.ofCell(0, 1));
         check.due("all of it", 4, x.paint(0, 9, -1L, false));
         check.due("none of it", 0, x.paint(0, 8, 0b1000L, false));
         check.due("no cell at all", 0, x.paint(0, 8, 0L, false));

@@ -41,6 +41,7 @@ public final class WallsTest {
         check.fails("new: over(0)", INDEX, () -> x.over(0));
         check.fails("new: mitre(0, 0)", INDEX, () -> x.mitre(0, 0));
         check.due("new: ofCell(0, 0)", -1, x.ofCell(0, 0));
+        check.due("new: ofCell(0, 1)", -1, x.ofCell(0, 1));
         check.due("new: first wall", 0, x.wall(1, Stuccohand.STONE));
         check.due("new: damp", 0, x.damp(0, 0));
         x.coat(0, 0, 0, GYPSUM, 5);
@@ -253,6 +254,12 @@ public final class WallsTest {
         late.joint(0, 0);
         check.due("a joint that comes too late", 1, late.ofCoat(0, 1, 0, 4));
 
+        Stuccohand beyond = withWall(3, Stuccohand.STONE);
+        beyond.coat(0, 2, 2, CEMENT, 20);
+        beyond.coat(0, 0, 0, CEMENT, 20);
+        beyond.pass(10);
+        check.due("cracked ones that were not told do not count", 0, beyond.coat(0, 1, 1, LIME, 1));
+
         Stuccohand far = withWall(3, Stuccohand.BRICK);
         far.coat(0, 0, 0, LIME, 2);
         far.pass(1);
@@ -308,6 +315,11 @@ public final class WallsTest {
         x.coat(0, 0, 1, LIME, 1);
         check.fails("no coat on the last strip", STATE, () -> x.scratch(0, 0, 2));
         check.due("and none is scratched", 0, x.ofCoat(0, 0, 0, 5));
+        check.due("the first one", 1, x.scratch(0, 0, 0));
+        check.due("scratched alone", 0, x.ofCoat(0, 1, 0, 5));
+        x.strike(0, 0);
+        x.coat(0, 0, 0, LIME, 1);
+        check.due("a coat laid anew is not scratched", 0, x.ofCoat(0, 0, 0, 5));
         check.due("one", 1, x.scratch(0, 1, 1));
         check.due("two, one of them again", 1, x.scratch(0, 0, 1));
         check.due("two again", 0, x.scratch(0, 0, 1));
@@ -421,6 +433,11 @@ public final class WallsTest {
         int[] upper = {GAUGED, 9, 9, 0, 1, 0};
         for (int what = 0; what < 6; what++) {
             check.due("strip 1, coat 1, " + what, upper[what], x.ofCoat(0, 1, 1, what));
+        }
+        Stuccohand y = withWall(4, Stuccohand.STONE);
+        for (int plaster = 0; plaster < 4; plaster++) {
+            y.coat(0, plaster, plaster, plaster, 1);
+            check.due("the plaster of strip " + plaster, plaster, y.ofCoat(0, plaster, 0, 0));
         }
         check.fails("no wall", INDEX, () -> x.ofCoat(1, 0, 0, 0));
         check.fails("no strip", INDEX, () -> x.ofCoat(0, 2, 0, 0));
