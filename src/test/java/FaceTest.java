@@ -54,6 +54,7 @@ public final class FaceTest {
             int kind = inside.getModifiers();
             check.due(inside + " is static", true, Modifier.isStatic(kind));
             check.due(inside + " is hidden", false, Modifier.isPublic(kind) || Modifier.isProtected(kind));
+            fieldsOf(inside);
         }
         check.finish();
     }
@@ -106,6 +107,20 @@ public final class FaceTest {
             }
         }
         check.due("the constants", new TreeSet<>(Arrays.asList(CONSTANTS)), found);
+    }
+
+    private static void fieldsOf(Class<?> inside) {
+        Field[] fields = inside.getDeclaredFields();
+        check.due(inside + " has at most some twenty fields", true, fields.length <= 20);
+        for (Field field : fields) {
+            int kind = field.getModifiers();
+            check.due(field + " is final, if static", true, !Modifier.isStatic(kind) || Modifier.isFinal(kind));
+            if (inside.isEnum() && !Modifier.isStatic(kind)) {
+                Class<?> type = field.getType();
+                check.due(field + " is of a type that an enum may have", true,
+                        type == int.class || type == long.class || type == boolean.class || type == String.class);
+            }
+        }
     }
 
     private static void constructors(Class<?> face) {

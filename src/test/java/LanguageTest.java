@@ -1,6 +1,7 @@
 import java.io.IOException;
 import java.nio.file.Files;
 import java.nio.file.Path;
+import java.util.ArrayList;
 import java.util.List;
 import java.util.regex.Matcher;
 import java.util.regex.Pattern;
@@ -11,7 +12,12 @@ public final class LanguageTest {
     private static final String[] RULED_OUT = {"catch", "finally", "synchronized", "assert", "->", "::", "Exact\\(",
         "System\\.(?!arraycopy)", "Thread", "Random", "record ", "package ", "ordinal\\(", "\\.name\\(", "hashCode",
         "toString\\(\\) \\{", "static (final )?(float|double) [A-Za-z_]+( =|;)", "String\\.", "for \\([A-Za-z]+ [a-z]+ : "};
+    private static final List<String> LIBRARY = List.of("length", "charAt", "isEmpty", "equals", "indexOf", "substring",
+        "toCharArray", "append", "setCharAt", "setLength", "deleteCharAt", "reverse", "toString", "add", "get", "set",
+        "remove", "size", "clear", "of", "compare", "max", "min", "abs", "bitCount", "floorDiv", "floorMod", "arraycopy",
+        "copyOf", "copyOfRange", "fill", "clone", "values");
     private static final int LONGEST_METHOD = 60;
+    private static final int MOST_PARAMETERS = 7;
     private static final int MOST_CLASSES = 12;
     private static final Check check = new Check("LanguageTest");
 
@@ -29,6 +35,7 @@ public final class LanguageTest {
         imports(code);
         classes(code);
         methods(code.split("\n"));
+        calls(code);
         check.finish();
     }
 
@@ -60,6 +67,24 @@ public final class LanguageTest {
                 }
                 check.due("line " + (i + 1) + ": a method of " + (end - i + 1) + " lines", true, end - i < LONGEST_METHOD);
             }
+        }
+    }
+
+    /** What is called on something is the library's, of what the rules list, or a method of the program. */
+    private static void calls(String code) {
+        List<String> own = new ArrayList<>();
+        Matcher declared = Pattern.compile("\n {4,8}(?:private |public |static |final )*[\\w<>\\[\\]]+ (\\w+)\\(([^)]*)\\)[^;]*?\\{")
+                .matcher(code);
+        while (declared.find()) {
+            own.add(declared.group(1));
+            int parameters = declared.group(2).isEmpty() ? 0 : declared.group(2).split(",").length;
+            check.due("parameters of " + declared.group(1), true, parameters <= MOST_PARAMETERS);
+        }
+        check.due("methods found", true, own.size() > 60);
+        Matcher called = Pattern.compile("\\.(\\w+)\\(").matcher(code);
+        while (called.find()) {
+            String name = called.group(1);
+            check.due("the call of " + name, true, LIBRARY.contains(name) || own.contains(name));
         }
     }
 }
