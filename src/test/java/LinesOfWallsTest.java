@@ -214,6 +214,10 @@ public final class LinesOfWallsTest {
         z.coat(0, 0, 2, CEMENT, 20);
         z.pass(12);
         check.due("not the cracks of the coat below", 0, z.coat(0, 0, 2, LIME, 5));
+        Stuccohand beside = Check.withWall(3, Stuccohand.BRICK);
+        beside.coat(0, 0, 0, GAUGED, 11);
+        beside.coat(0, 2, 2, GAUGED, 11);
+        check.due("not the cracked ones of strips that were not told", 0, beside.coat(0, 1, 1, LIME, 1));
         Stuccohand later = Check.withWall(1, Stuccohand.STONE);
         later.weather(50, 20);
         check.due("not what cracks when it dries", 0, later.coat(0, 0, 0, CEMENT, 2));
